@@ -768,7 +768,6 @@ public final class PropellantGauge {
             }
             burning = engine;
             burnStart = now;
-            starved = false;
             for (int t = 0; t < MAX_TANKS; t++) {
                 burnShares[t] = 0;
             }

@@ -168,6 +168,11 @@ public final class PropellantGaugePromises {
         x.addPoint(1, 20, 25);
         due("4 above the last", x.volume(1, 21), 25);
         due("4 half", x.volume(1, 15), 15);
+        x.addPoint(1, 21, 40);
+        x.addPoint(1, 22, 41);
+        due("4 levels next to one another, lower", x.volume(1, 20), 25);
+        due("4 levels next to one another, upper", x.volume(1, 21), 40);
+        due("4 above the last again", x.volume(1, 23), 41);
     }
 
     private static void promise5Load() {
@@ -302,6 +307,9 @@ public final class PropellantGaugePromises {
         }
         x.set(2, 7);
         due("9 reserve rounded down", x.mass(0, 3), 1000 - 300 - 13);
+        x.load(0, 1000, 0);
+        due("9 no variance", x.mass(0, 3), 700);
+        x.load(0, 1000, 19);
         x.set(2, 0);
         due("9 no margin", x.mass(0, 3), 700);
         x.set(2, 100);
@@ -736,6 +744,7 @@ public final class PropellantGaugePromises {
         for (int i = 0; i < 49999; i++) {
             x.pass(2000);
         }
+        x.load(0, 10, 0);
         due("19 beyond the greatest time", x.pass(1999), 99999999);
         due("19 2 more", x.pass(2), -3);
         due("19 not changed", x.time(), 99999999);
@@ -743,9 +752,10 @@ public final class PropellantGaugePromises {
         Checks.write(x, "burn a 2;");
         due("19 no burn that could not last", x.execute(), 0);
         due("19 it did not begin", x.burn(0), -1);
-        due("19 no entry of it", x.entryCount(), 0);
+        due("19 no entry of it", x.entryCount(), 1);
         due("19 planned", x.planned(), 0);
         Checks.write(x, "burn a 1;wait 1;");
+        due("19 planned up to the greatest time", x.planned(), 1);
         due("19 up to the greatest time", x.execute(), 1);
         due("19 the greatest time", x.time(), 100000000);
         due("19 1 more", x.pass(1), -3);
@@ -918,6 +928,12 @@ public final class PropellantGaugePromises {
         due("22 down to the last", y.read(0, 0), 1);
         y.pass(2);
         due("22 starved", y.read(0, 0), 3);
+        y.cutoff();
+        y.load(0, 1, 1000);
+        y.ignite(0);
+        due("22 down to nothing", y.read(0, 0), 1);
+        due("22 the estimate is 0", y.mass(0, 2), 0);
+        dueEntry(y, "22 entry down to nothing", 1001, 2, 0, -1);
     }
 
     private static void readGreatValues() {
@@ -1064,6 +1080,9 @@ public final class PropellantGaugePromises {
         Checks.write(x, "wait 5;");
         Checks.write(x, "wait ");
         due("27 the old characters are gone", x.fault(), 0);
+        Checks.write(x, "stop;");
+        Checks.write(x, "stop");
+        due("27 the old semicolon is gone", x.fault(), 0);
     }
 
     private static void promise28Fault() {
@@ -1178,6 +1197,8 @@ public final class PropellantGaugePromises {
         dueExecuted(x, "burn a 1;", 0);
         dueExecuted(x, "open a 0;burn a 1;", 2);
         due("29 burnt", x.time(), 502);
+        dueExecuted(x, "start a;stop;wait 1;", 3);
+        due("29 a burn without time is no error", x.time(), 503);
     }
 
     private static void dueExecuted(PropellantGauge x, String text, int want) {
@@ -1241,8 +1262,22 @@ public final class PropellantGaugePromises {
         due("30 in a burn", x.longestBurn(0), -2);
         due("30 in a burn, wrong", x.longestBurn(1), -1);
         x.cutoff();
+        x.load(0, 1, 0);
+        due("30 below now with the least booked mass", x.longestBurn(0), -4);
         x.load(0, 100, 0);
         due("30 just not below now", x.longestBurn(0), 0);
+        PropellantGauge y = new PropellantGauge();
+        for (int t = 0; t < 4; t++) {
+            y.addTank(1000, 10);
+            y.load(t, 30, 0);
+        }
+        engine(y, "a", 19, 0);
+        // Tank 0 gives 4 and the rest of 3 in each step, the others 4.
+        due("30 four tanks", y.longestBurn(0), 2);
+        y.setValve(0, 0, 0);
+        due("30 three tanks", y.longestBurn(0), 2);
+        y.load(3, 9, 0);
+        due("30 the last is below", y.longestBurn(0), -4);
     }
 
     private static void longestBurnOfOneTank() {
@@ -1346,6 +1381,36 @@ public final class PropellantGaugePromises {
         x.pass(1);
         Checks.write(x, "burn a 3;");
         due("31 by bookkeeping, not by true masses", x.planned(), 30);
+        plannedFromAPresentBurn();
+        plannedWithReadings();
+    }
+
+    private static void plannedFromAPresentBurn() {
+        PropellantGauge x = gaugedCraft(10);
+        x.load(0, 1000, 0);
+        x.pass(5);
+        x.ignite(0);
+        x.pass(2);
+        Checks.write(x, "wait 3;stop;burn a 4;");
+        due("31 the present burn goes on", x.planned(), 70);
+        x.cutoff();
+        due("31 no present burn", x.planned(), 0);
+        Checks.write(x, "burn a 4;");
+        due("31 a burn of its own", x.planned(), 40);
+    }
+
+    private static void plannedWithReadings() {
+        PropellantGauge x = new PropellantGauge();
+        x.addTank(1000, 0);
+        engine(x, "a", 10, 0);
+        x.load(0, 1000, 1000);
+        x.set(0, 0);
+        Checks.write(x, "start a;read 0 5;wait 2;");
+        due("31 a reading without a table", x.planned(), 0);
+        x.addPoint(0, 0, 0);
+        due("31 a reading", x.planned(), 20);
+        due("31 no entry for it", x.entryCount(), 1);
+        due("31 same estimate", x.mass(0, 2), 1000);
     }
 
     private static void promise32Drift() {
