@@ -74,9 +74,6 @@ public final class PropellantGauge {
         if (craft.isBurning()) {
             return NOT_POSSIBLE;
         }
-        if (craft.tanks.count >= MAX_TANKS) {
-            return CAPACITY_EXCEEDED;
-        }
         return craft.tanks.append(density, residual);
     }
 
@@ -197,11 +194,10 @@ public final class PropellantGauge {
         if (bufferedLetters == 0 || craft.engines.find(bufferedName) >= 0) {
             return NOT_POSSIBLE;
         }
-        if (craft.engines.count >= MAX_ENGINES) {
-            return CAPACITY_EXCEEDED;
-        }
         int engine = craft.engines.append(bufferedName, flow, uncertainty);
-        emptyNameBuffer();
+        if (engine >= 0) {
+            emptyNameBuffer();
+        }
         return engine;
     }
 

@@ -307,8 +307,11 @@ public final class PropellantGaugePromises {
         }
         x.set(2, 7);
         due("9 reserve rounded down", x.mass(0, 3), 1000 - 300 - 13);
+        x.set(2, 10);
         x.load(0, 1000, 0);
-        due("9 no variance", x.mass(0, 3), 700);
+        due("9 root of 0", x.mass(0, 3), 700);
+        x.load(0, 1000, 1);
+        due("9 root of 1", x.mass(0, 3), 699);
         x.load(0, 1000, 19);
         x.set(2, 0);
         due("9 no margin", x.mass(0, 3), 700);
