@@ -106,6 +106,11 @@ public final class PropellantGaugeErrors {
         });
         known.refused("12 a name that an engine has", x -> x.addEngine(5, 5), NOT_POSSIBLE);
         known.refused("12 invalid rather than not possible", x -> x.addEngine(0, 5), INVALID);
+        Refusals first = in("the name of the first engine in the buffer", x -> {
+            Checks.engine(x, "a", 1, 0);
+            x.letter('a');
+        });
+        first.refused("12 the name of the first engine", x -> x.addEngine(5, 5), NOT_POSSIBLE);
         FULL.refused("12 a seventh engine", x -> x.addEngine(5, 5), CAPACITY);
         FULL_BURNING.refused("12 a seventh engine", x -> x.addEngine(5, 5), CAPACITY);
         FULL.refused("12 invalid rather than capacity", x -> x.addEngine(100001, 5), INVALID);

@@ -32,7 +32,9 @@ public final class PropellantGaugeFace {
         publicFace();
         noPrivateMethodBearsAPublicName();
         nestedClasses();
+        parameters();
         source();
+        methodLengths();
         for (int seed = 0; seed < 200; seed++) {
             wildCalls(new Random(seed));
         }
@@ -94,9 +96,37 @@ public final class PropellantGaugeFace {
         }
     }
 
-    private static void source() throws IOException {
+    private static void parameters() {
+        for (Class<?> nested : PropellantGauge.class.getDeclaredClasses()) {
+            for (Method m : nested.getDeclaredMethods()) {
+                due(m + " has at most seven parameters", m.getParameterCount() <= 7 ? 1 : 0, 1);
+            }
+        }
+        for (Method m : PropellantGauge.class.getDeclaredMethods()) {
+            due(m + " has at most seven parameters", m.getParameterCount() <= 7 ? 1 : 0, 1);
+        }
+    }
+
+    /** The code without its comments, and with nothing in its texts and characters. */
+    private static String bareSource() throws IOException {
         String code = Files.readString(SOURCE).replaceAll("(?s)/\\*.*?\\*/", "").replaceAll("//[^\n]*", "");
-        String bare = code.replaceAll("\"[^\"]*\"", "\"\"").replaceAll("'.'", "' '");
+        return code.replaceAll("\"[^\"]*\"", "\"\"").replaceAll("'.'", "' '");
+    }
+
+    private static void methodLengths() throws IOException {
+        Matcher method = Pattern.compile("(?m)^( {4}| {8})((?:[\\w\\[\\]]+ )*\\w+\\([^{;]*\\)) \\{$(?s:.*?)^\\1\\}$")
+                .matcher(bareSource());
+        int methods = 0;
+        while (method.find()) {
+            methods++;
+            long lines = method.group().lines().count();
+            due(method.group(2) + " has at most sixty lines", lines <= 60 ? 1 : 0, 1);
+        }
+        due("methods were found", methods > 80 ? 1 : 0, 1);
+    }
+
+    private static void source() throws IOException {
+        String bare = bareSource();
         String[] forbidden = {"throw", "throws", "try", "catch", "finally", "synchronized", "assert", "import", "package",
             "protected", "volatile", "transient", "native", "Object", "System\\.(?!arraycopy)\\w+", "\\w+Exact", "->",
             "::", "@\\w+", "static\\s*\\{", "var", "yield", "instanceof"};
@@ -106,6 +136,14 @@ public final class PropellantGaugeFace {
                 CHECKS.fail("the source contains " + m.group());
             }
         }
+        Matcher library = Pattern.compile("\\b(Math|System|Integer|Long|Arrays|String|List)\\.\\w+").matcher(bare);
+        while (library.find()) {
+            if (!Set.of("Math.max", "Math.min", "Math.floorDiv", "Math.floorMod", "System.arraycopy")
+                    .contains(library.group())) {
+                CHECKS.fail("the source calls " + library.group());
+            }
+        }
+        due("no texts are joined by +", Pattern.compile("\"\\s*\\+|\\+\\s*\"").matcher(bare).find() ? 1 : 0, 0);
         due("characters are ASCII", Files.readString(SOURCE).chars().allMatch(c -> c < 128) ? 1 : 0, 1);
         // Only constructors make objects, so that the calls of a run make none.
         Matcher made = Pattern.compile("(?m)^.*\\bnew\\b.*$").matcher(bare);

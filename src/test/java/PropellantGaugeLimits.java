@@ -8,6 +8,7 @@ public final class PropellantGaugeLimits {
         eightPoints();
         sixEngines();
         sixLetters();
+        namesAreDifferent();
         twentyFourEntries();
         everyKindPushesTheOldestOut();
         hundredCharacters();
@@ -129,6 +130,20 @@ public final class PropellantGaugeLimits {
         due("so that it takes letters again", x.letter('a'), 1);
     }
 
+    private static void namesAreDifferent() {
+        String[][] sets = {{"ab", "ba", "a", "b", "aab", "aba"}, {"zzzzzz", "zzzzz", "zzzzzy", "yzzzzz", "z", "zzyzzz"}};
+        for (String[] names : sets) {
+            PropellantGauge x = new PropellantGauge();
+            for (int e = 0; e < 6; e++) {
+                due("the new name " + names[e], engine(x, names[e], 1, 0), e);
+            }
+            for (int e = 0; e < 6; e++) {
+                due("the old name " + names[e], engine(x, names[e], 1, 0), -2);
+                due("its engine", x.engineNamed(), e);
+            }
+        }
+    }
+
     private static void twentyFourEntries() {
         PropellantGauge x = new PropellantGauge();
         due("no entry", x.entryCount(), 0);
@@ -204,6 +219,8 @@ public final class PropellantGaugeLimits {
         due("its length behind that", x.clearText(), 0);
         due("it takes characters again", x.type('x'), 1);
         due("and nothing of the old ones is left", x.fault(), 0);
+        Checks.write(x, "stop");
+        due("not even the semicolon behind it", x.fault(), 0);
     }
 
     private static void aHundredCharactersOfCommands() {
@@ -290,6 +307,13 @@ public final class PropellantGaugeLimits {
             x.load(0, masses[i], 0);
             due("longestBurn of " + masses[i], x.longestBurn(0), due[i]);
         }
+        x.load(0, 0, 0);
+        due("a tank without a booked mass does not count", x.longestBurn(0), 5000);
+        x.load(0, 1, 0);
+        due("one with the least booked mass does", x.longestBurn(0), -4);
+        x.setValve(0, 0, 0);
+        due("but not a closed one", x.longestBurn(0), 5000);
+        x.setValve(0, 0, 1);
         x.load(0, 1000000000, 0);
         due("longestBurn of the greatest mass", x.longestBurn(0), 5000);
         x.load(0, 1000000, 0);

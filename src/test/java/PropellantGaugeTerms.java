@@ -139,6 +139,13 @@ public final class PropellantGaugeTerms {
         x.pass(1);
         due("an empty tank does not share", x.mass(2, 0), 35);
         due("and stays empty", x.mass(1, 0), 0);
+        PropellantGauge y = craft(4, 50, 11, 0);
+        y.load(0, 0, 0);
+        y.setValve(0, 1, 0);
+        burnFor(y, 0, 1);
+        due("the lowest of those that share gives the rest", y.mass(2, 0), 44);
+        due("and by bookkeeping too", y.mass(2, 1), 44);
+        due("the other one gives its share", y.mass(3, 0), 45);
     }
 
     private static void aTankGivesAllItHas() {
@@ -380,6 +387,8 @@ public final class PropellantGaugeTerms {
         y.pass(1);
         due("from the beginning of the burn", y.burn(2), 1);
         y.cutoff();
+        due("a burn that has ended lasts 0", y.burn(1), 0);
+        due("and has no engine", y.burn(0), -1);
         due("not behind the end", y.burn(2), 0);
         due("nor a reading behind the end", y.read(0, 0), 3);
     }
@@ -463,7 +472,7 @@ public final class PropellantGaugeTerms {
     private static void weightAndVarianceAreRoundedDown() {
         PropellantGauge x = gauged(1000, 0, 1);
         x.set(0, 0);
-        x.setGaugeVariance(0, 1);
+        due("the gauging variance is 1000000 initially", x.setGaugeVariance(0, 1), 1000000);
         due("no variance, least gauging variance", x.weight(0), 0);
         x.load(0, 1000, 1);
         due("the same variance", x.weight(0), 500);
@@ -603,9 +612,20 @@ public final class PropellantGaugeTerms {
         y.ignite(0);
         y.read(0, 1002);
         due("10 / 6 is rounded down", y.drift(0), 1);
-        y.cutoff();
-        y.load(0, 1000, 0);
-        due("a variance of 0 has the root of 1 as its unit", y.drift(0), 0);
+        // Gauging variances that leave just these variances, and the roots of one more than them.
+        int[] uncertainties = {1, 2, 3, 3, 3};
+        int[] gaugings = {1, 3, 3, 5, 9};
+        int[] variances = {0, 1, 2, 3, 4};
+        int[] roots = {1, 1, 1, 2, 2};
+        for (int i = 0; i < variances.length; i++) {
+            PropellantGauge x = gauged(1000, uncertainties[i], 1);
+            x.setGaugeVariance(0, gaugings[i]);
+            x.set(0, 0);
+            x.ignite(0);
+            x.read(0, 1004);
+            due("variance " + variances[i], x.mass(0, 5), variances[i]);
+            due("drift by variance " + variances[i], x.drift(0), 10 * x.entry(0, 3) / roots[i]);
+        }
     }
 
     // ---- ledger

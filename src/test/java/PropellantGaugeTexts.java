@@ -25,6 +25,7 @@ public final class PropellantGaugeTexts {
         positionOfTheFault();
         everyCommandIsItsMethod();
         burnIsItsThreeMethods();
+        aBurnAtTheTime0();
         theExecutionEnds();
         plannedIsWhatExecuteBooks();
         CHECKS.finish();
@@ -156,6 +157,15 @@ public final class PropellantGaugeTexts {
                 });
             }
         }
+    }
+
+    private static void aBurnAtTheTime0() {
+        PropellantGauge x = new PropellantGauge();
+        x.addTank(1000, 0);
+        Checks.engine(x, "a", 1, 0);
+        dueExecuted(x, "start a;stop;", 2);
+        dueExecuted(x, "burn a 1;", 1);
+        due("a burn at the time 0 has ended", x.time(), 1);
     }
 
     /** A text of one command and the call have the same effect. */
