@@ -41,7 +41,8 @@ public final class PropellantGaugeAgainstModel {
     private void same(String call, long got, long want) {
         calls++;
         done.add(call + " = " + want);
-        if (got != want && !differs) {
+        // What an object answers behind its last call is free.
+        if (got != want && !differs && calls <= CALLS) {
             differs = true;
             int from = Math.max(0, done.size() - 40);
             CHECKS.due(run + ", call " + calls + ", after " + done.subList(from, done.size() - 1) + ": " + call,

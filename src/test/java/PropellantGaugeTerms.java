@@ -459,6 +459,18 @@ public final class PropellantGaugeTerms {
                 due(what + ": its tank", x.entry(0, 2), 0);
             }
         }
+        // The least sum of variances is 1, so that the gate alone is the greatest square.
+        for (int i = 0; i < gates.length; i++) {
+            PropellantGauge x = gauged(1000, 0, 1);
+            x.setGaugeVariance(0, 1);
+            x.set(1, gates[i]);
+            x.set(0, 0);
+            x.ignite(0);
+            due("least variances, gate " + gates[i] + ", just above", x.read(0, 1001 + roots[i]), 2);
+            due("least variances, gate " + gates[i] + ", just below", x.read(0, 999 - roots[i]), 2);
+            due("least variances, gate " + gates[i] + ", at it", x.read(0, 1000 + roots[i]), 1);
+            due("without a weight the estimate stays", x.mass(0, 2), 1000);
+        }
         // A sum that is no square: 3 times 7 lies between 4 * 4 and 5 * 5.
         PropellantGauge y = gauged(1000, 2, 1);
         y.setGaugeVariance(0, 3);
