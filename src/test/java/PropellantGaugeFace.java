@@ -7,6 +7,7 @@ import java.lang.reflect.Modifier;
 import java.nio.file.Files;
 import java.nio.file.Path;
 import java.util.Arrays;
+import java.util.List;
 import java.util.Random;
 import java.util.Set;
 import java.util.TreeSet;
@@ -35,6 +36,7 @@ public final class PropellantGaugeFace {
         parameters();
         source();
         methodLengths();
+        callDepths();
         for (int seed = 0; seed < 200; seed++) {
             wildCalls(new Random(seed));
         }
@@ -123,6 +125,15 @@ public final class PropellantGaugeFace {
             due(method.group(2) + " has at most sixty lines", lines <= 60 ? 1 : 0, 1);
         }
         due("methods were found", methods > 80 ? 1 : 0, 1);
+    }
+
+    private static void callDepths() throws IOException {
+        CallDepths depths = new CallDepths(SOURCE);
+        due("methods were read", depths.methods().size() > 80 ? 1 : 0, 1);
+        for (String method : depths.methods()) {
+            List<String> chain = depths.deepestFrom(method);
+            due(chain + " is at most eight deep", chain.size() <= 8 ? 1 : 0, 1);
+        }
     }
 
     private static void source() throws IOException {
